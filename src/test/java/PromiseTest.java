@@ -521,6 +521,10 @@ public final class PromiseTest {
         game.playFerry(1, 2);
         checks.due("16 after", true, () -> game.isFerryUsed(1));
         checks.due("16 others", false, () -> game.isFerryUsed(0) || game.isFerryUsed(2));
+        game.placeBid(0, 0, 1);
+        game.playFerry(0, 0);
+        checks.due("16 the second ferry", true, () -> game.isFerryUsed(0));
+        checks.due("16 the first stays used", true, () -> game.isFerryUsed(1));
     }
 
     private void bridgeCountAndScore() {
@@ -593,6 +597,8 @@ public final class PromiseTest {
         game.placeBluff(0, 0, 77);
         checks.due("26 two", 2, () -> game.bidCount(0));
         checks.due("26 none", 0, () -> game.bidCount(1));
+        game.placeBid(1, 2, 1);
+        checks.due("26 an amount of 1", 1, () -> game.bidCount(2));
         checks.due("27 genuine", 3, () -> game.bidAmount(2, 0));
         checks.due("27 bluff", 77, () -> game.bidAmount(0, 0));
         checks.due("27 none", ELEMENT, () -> game.bidAmount(1, 0));

@@ -9,14 +9,17 @@ final class Checks {
     private int right = 0;
     private int wrong = 0;
 
-    /** The call answers what is due; a class stands for an exception of exactly this class. */
-    void due(String what, Object due, Call call) {
-        Object got;
+    /** What the call answers; a class stands for an exception of exactly this class. */
+    static Object answerOf(Call call) {
         try {
-            got = call.answer();
+            return call.answer();
         } catch (RuntimeException e) {
-            got = e.getClass();
+            return e.getClass();
         }
+    }
+
+    void due(String what, Object due, Call call) {
+        Object got = answerOf(call);
         if (Objects.equals(due, got)) {
             right++;
         } else {
@@ -25,11 +28,8 @@ final class Checks {
         }
     }
 
-    /** The call throws an exception of exactly this class and leaves all that can be seen of the game. */
-    void refused(String what, Class<? extends RuntimeException> due, BridgeAuction game, Call call) {
-        String before = Sight.of(game);
-        due(what, due, call);
-        due(what + " changes nothing", before, () -> Sight.of(game));
+    int count() {
+        return right + wrong;
     }
 
     boolean hasManyFaults() {

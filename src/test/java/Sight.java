@@ -1,94 +1,27 @@
-/** All that the questions of the face tell of a game, in one text. Asking changes nothing. */
+/**
+ * What the questions of the face tell of a game, in one text of fewer than 350 questions, since an object answers 512
+ * calls only. Asking changes nothing.
+ */
 final class Sight {
+    private final BridgeAuction game;
     private final StringBuilder text = new StringBuilder();
 
+    private Sight(BridgeAuction game) {
+        this.game = game;
+    }
+
     static String of(BridgeAuction game) {
-        Sight sight = new Sight();
-        sight.totals(game);
-        sight.graph(game);
-        sight.players(game);
-        sight.sites(game);
-        sight.output(game);
+        Sight sight = new Sight(game);
+        sight.totals();
+        sight.islands();
+        for (int player = 0; player < game.playerCount(); player++) {
+            sight.player(player);
+        }
+        for (int site = 0; site < game.siteCount(); site++) {
+            sight.site(site);
+        }
+        sight.text.append("\noutput ").append(outputOf(game));
         return sight.text.toString();
-    }
-
-    private void see(String name, Checks.Call call) {
-        text.append(name).append('=');
-        try {
-            text.append(call.answer());
-        } catch (RuntimeException e) {
-            text.append(e.getClass().getSimpleName());
-        }
-        text.append('\n');
-    }
-
-    private void totals(BridgeAuction game) {
-        see("tide", game::tide);
-        see("playerCount", game::playerCount);
-        see("siteCount", game::siteCount);
-        see("cheapestFreeSite", game::cheapestFreeSite);
-        see("bankMoney", game::bankMoney);
-        see("settledTotal", game::settledTotal);
-        see("bluffTotal", game::bluffTotal);
-        see("meanBridgeLength", game::meanBridgeLength);
-        see("builtShare", game::builtShare);
-        see("isConsistent", game::isConsistent);
-        see("errorPosition", game::errorPosition);
-        see("failedCommand", game::failedCommand);
-    }
-
-    private void graph(BridgeAuction game) {
-        see("componentCount", game::componentCount);
-        see("componentCountByUnion", game::componentCountByUnion);
-        see("forestLength", game::forestLength);
-        see("forestLengthByPrim", game::forestLengthByPrim);
-        for (int i = -1; i <= 8; i++) {
-            int first = i;
-            see("suit " + i, () -> game.suit(first));
-            for (int j = -1; j <= 8; j++) {
-                int second = j;
-                see("isConnected " + i + " " + j, () -> game.isConnected(first, second));
-                see("distance " + i + " " + j, () -> game.distance(first, second));
-                see("distanceByRelaxation " + i + " " + j, () -> game.distanceByRelaxation(first, second));
-            }
-        }
-    }
-
-    private void players(BridgeAuction game) {
-        for (int i = -1; i <= 4; i++) {
-            int player = i;
-            see("money " + i, () -> game.money(player));
-            see("availableMoney " + i, () -> game.availableMoney(player));
-            see("isFerryUsed " + i, () -> game.isFerryUsed(player));
-            see("bridgeCount " + i, () -> game.bridgeCount(player));
-            see("score " + i, () -> game.score(player));
-            see("playerByScore " + i, () -> game.playerByScore(player));
-        }
-    }
-
-    private void sites(BridgeAuction game) {
-        for (int j = -1; j <= 12; j++) {
-            int site = j;
-            see("lowerIsland " + j, () -> game.lowerIsland(site));
-            see("higherIsland " + j, () -> game.higherIsland(site));
-            see("length " + j, () -> game.length(site));
-            see("buildingCost " + j, () -> game.buildingCost(site));
-            see("isBuilt " + j, () -> game.isBuilt(site));
-            see("builder " + j, () -> game.builder(site));
-            see("bidCount " + j, () -> game.bidCount(site));
-            see("ferryOwner " + j, () -> game.ferryOwner(site));
-            see("winningBidder " + j, () -> game.winningBidder(site));
-            see("wouldBuild " + j, () -> game.wouldBuild(site));
-            for (int i = -1; i <= 4; i++) {
-                int player = i;
-                see("bidAmount " + i + " " + j, () -> game.bidAmount(player, site));
-                see("isBluff " + i + " " + j, () -> game.isBluff(player, site));
-            }
-        }
-    }
-
-    private void output(BridgeAuction game) {
-        text.append("output=").append(outputOf(game)).append('\n');
     }
 
     static String outputOf(BridgeAuction game) {
@@ -101,5 +34,62 @@ final class Sight {
             }
         }
         return output.toString();
+    }
+
+    private void see(String name, Checks.Call call) {
+        Object answer = Checks.answerOf(call);
+        text.append(' ').append(name).append('=');
+        text.append(answer instanceof Class<?> thrown ? thrown.getSimpleName() : answer);
+    }
+
+    private void totals() {
+        see("tide", game::tide);
+        see("bankMoney", game::bankMoney);
+        see("settledTotal", game::settledTotal);
+        see("bluffTotal", game::bluffTotal);
+        see("cheapestFreeSite", game::cheapestFreeSite);
+        see("componentCount", game::componentCount);
+        see("forestLength", game::forestLength);
+        see("isConsistent", game::isConsistent);
+        see("errorPosition", game::errorPosition);
+        see("failedCommand", game::failedCommand);
+    }
+
+    private void islands() {
+        for (int i = 0; i < 8; i++) {
+            int first = i;
+            text.append("\nisland ").append(i);
+            see("suit", () -> game.suit(first));
+            for (int j = i + 1; j < 8; j++) {
+                int second = j;
+                see("to" + j, () -> game.distance(first, second));
+            }
+        }
+    }
+
+    private void player(int player) {
+        text.append("\nplayer ").append(player);
+        see("money", () -> game.money(player));
+        see("availableMoney", () -> game.availableMoney(player));
+        see("isFerryUsed", () -> game.isFerryUsed(player));
+        see("bridgeCount", () -> game.bridgeCount(player));
+        see("score", () -> game.score(player));
+        see("atThisRank", () -> game.playerByScore(player));
+    }
+
+    private void site(int site) {
+        text.append("\nsite ").append(site);
+        see("lowerIsland", () -> game.lowerIsland(site));
+        see("higherIsland", () -> game.higherIsland(site));
+        see("length", () -> game.length(site));
+        see("buildingCost", () -> game.buildingCost(site));
+        see("builder", () -> game.builder(site));
+        see("bidCount", () -> game.bidCount(site));
+        see("ferryOwner", () -> game.ferryOwner(site));
+        for (int i = 0; i < game.playerCount(); i++) {
+            int player = i;
+            see("bidOf" + i, () -> game.bidAmount(player, site));
+            see("isBluffOf" + i, () -> game.isBluff(player, site));
+        }
     }
 }

@@ -3,7 +3,7 @@ public final class BiddingTest extends Suite {
     private static final int[] NO_AMOUNTS = {-1, 0, 100, 101, -50, 257, 65537, Integer.MIN_VALUE, Integer.MAX_VALUE};
     private static final int[] AMOUNTS = {1, 2, 50, 98, 99};
 
-    /** Site 0 is built, site 1 has a bid with a ferry and a bluff, site 2 has a genuine bid of all that player 2 has. */
+    /** Site 0 is built; on site 1 lie a bid with a ferry and a bluff; on site 2 lies all that player 2 has. */
     private static final Start TABLE = Games.THREE.then(game -> {
         Games.build(game, 0, 0);
         game.placeBid(1, 1, 10);
@@ -68,8 +68,8 @@ public final class BiddingTest extends Suite {
         answers("settled but free", 47, unbuilt, game -> game.placeBid(0, 0, 1));
     }
 
-    @Sentence(promise = 6, text = "Throws `UnsupportedOperationException` if the amount is not greater than the highest "
-            + "amount on the site, or the player cannot afford it")
+    @Sentence(promise = 6, text = "Throws `UnsupportedOperationException` if the amount is not greater than the "
+            + "highest amount on the site, or the player cannot afford it")
     void placeBidTooLowOrTooDear() {
         for (int low : new int[] {1, 10, 11, 29, 30}) {
             refused("not above the bluff: " + low, UNSUPPORTED, TABLE, game -> game.placeBid(0, 1, low));
@@ -145,8 +145,8 @@ public final class BiddingTest extends Suite {
         answers("settled but free", 1, unbuilt, game -> game.placeBluff(0, 0, 1));
     }
 
-    @Sentence(promise = 7, text = "Throws `UnsupportedOperationException` if the amount is not greater than the highest "
-            + "amount on the site")
+    @Sentence(promise = 7, text = "Throws `UnsupportedOperationException` if the amount is not greater than the "
+            + "highest amount on the site")
     void placeBluffTooLow() {
         for (int low : new int[] {1, 10, 11, 29, 30}) {
             refused("not above the own: " + low, UNSUPPORTED, TABLE, game -> game.placeBluff(0, 1, low));

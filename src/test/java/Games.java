@@ -17,7 +17,7 @@ final class Games {
         addSites(game, 12);
     };
 
-    /** Player 0 has built site 0; a genuine bid with a ferry and a bluff lie on site 1; player 2 lost all as a bluff. */
+    /** Player 0 has built site 0; a bid with a ferry and a bluff lie on site 1; player 2 lost all as a bluff. */
     static final Start BUSY = THREE.then(game -> {
         game.addPlayer(99);
         build(game, 0, 0);

@@ -129,20 +129,8 @@ public final class ScriptsTest extends Suite {
             "site 0 1 10", "suit 0", "TIDE 1", "tide 1;tide", "tide 1;;tide 2", "settle 0;x", "save", "undo"};
         int[] positions = {0, 0, 0, 1, 4, 5, 6, 7, 6, 9, 7, 7, 10, 5, 10, 9, 6, 6, 10, 6, 0, 11, 7, 9, 1, 0};
         for (int i = 0; i < scripts.length; i++) {
-            Start start = Games.BUSY.then(typed(scripts[i]));
-            answers("'" + scripts[i] + "'", ARGUMENT, start, BridgeAuction::runScript);
-            Start run = start.then(game -> Checks.answerOf(game::runScript));
-            answers("position in '" + scripts[i] + "'", positions[i], run, BridgeAuction::errorPosition);
-            answers("no command failed in '" + scripts[i] + "'", ELEMENT, run, BridgeAuction::failedCommand);
-            for (Look look : Look.values()) {
-                due("'" + scripts[i] + "' leaves " + look, withoutTraces(look.at(Games.BUSY.make())),
-                        () -> withoutTraces(look.at(run.make())));
-            }
+            refusedScript(scripts[i], Games.BUSY, ARGUMENT, positions[i], ELEMENT);
         }
-    }
-
-    private static String withoutTraces(String sight) {
-        return sight.replaceAll("(errorPosition|failedCommand)=\\w+", "");
     }
 
     @Sentence(promise = 50, text = "Throws `IllegalStateException` if the method for a command throws an exception; no "
@@ -192,18 +180,6 @@ public final class ScriptsTest extends Suite {
         failing("tide 5;bid 0 0 8;settle 0;settle 0;tide 1", 3, table);
         failing("tide 5;bid 0 0 8;settle 0;player 1;player 1", 4, table);
         failing("tide 1;tide 2;tide 3;tide 4;tide 5;tide 6;suit 0 1;settle 12", 7, table);
-    }
-
-    private void failing(String script, int command, Start table) {
-        Start start = table.then(typed(script));
-        answers(script, STATE, start, BridgeAuction::runScript);
-        Start run = start.then(game -> Checks.answerOf(game::runScript));
-        answers("index in " + script, command, run, BridgeAuction::failedCommand);
-        answers("the form of " + script, ELEMENT, run, BridgeAuction::errorPosition);
-        for (Look look : Look.values()) {
-            due(script + " leaves " + look, withoutTraces(look.at(table.make())),
-                    () -> withoutTraces(look.at(run.make())));
-        }
     }
 
     // ---- promises 51 and 52: errorPosition, failedCommand

@@ -78,6 +78,29 @@ abstract class Suite {
         }
     }
 
+    final void failing(String script, int command, Start start) {
+        refusedScript(script, start, STATE, ELEMENT, command);
+    }
+
+    /** The script is refused and leaves all but what errorPosition and failedCommand tell of it. */
+    final void refusedScript(String script, Start start, Class<? extends RuntimeException> due, Object position,
+            Object command) {
+        String what = "'" + script + "'";
+        Start typed = start.then(game -> Games.typeAll(game, script));
+        answers(what, due, typed, BridgeAuction::runScript);
+        Start refused = typed.then(game -> Checks.answerOf(game::runScript));
+        answers("error position of " + what, position, refused, BridgeAuction::errorPosition);
+        answers("failed command of " + what, command, refused, BridgeAuction::failedCommand);
+        for (Look look : Look.values()) {
+            due(what + " leaves " + look, withoutTraces(look.at(start.make())),
+                    () -> withoutTraces(look.at(refused.make())));
+        }
+    }
+
+    private static String withoutTraces(String sight) {
+        return sight.replaceAll("(errorPosition|failedCommand)=\\w+", "");
+    }
+
     final void noSuchIsland(ByIndex call) {
         outside("island", 8, Games.EMPTY, call);
         outside("island", 8, Games.BUSY, call);

@@ -595,8 +595,8 @@ public final class TermsOfPlayTest extends Suite {
 
     // ---- the graph and the score
 
-    @Sentence(promise = 0, text = "The built sites are the edges of an undirected graph whose vertices are the islands; "
-            + "the length of a site is the length of the edge.")
+    @Sentence(promise = 0, text = "The built sites are the edges of an undirected graph whose vertices are the "
+            + "islands; the length of a site is the length of the edge.")
     void builtSitesAreEdges() {
         refused("a free site is none", ELEMENT, Games.FULL, game -> game.distance(0, 4));
         Start bid = Games.FULL.then(game -> game.placeBid(0, 0, 50));

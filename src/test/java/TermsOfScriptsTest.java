@@ -146,33 +146,18 @@ public final class TermsOfScriptsTest extends Suite {
     void inOrderAllOrNone() {
         answers("a player before the bid", 4, Games.EMPTY,
                 game -> Games.run(game, "player 9;site 0 4 1;bid 0 0 9;settle 0"));
-        refusedScript("a bid before the player", 1, "site 0 4 1;bid 0 0 9;player 9", Games.EMPTY);
+        failing("site 0 4 1;bid 0 0 9;player 9", 1, Games.EMPTY);
         Start tides = game -> Games.run(game, "tide 3;tide 9;tide 4");
         answers("the last one counts", 4, tides, BridgeAuction::tide);
         for (int i = 0; i < 8; i++) {
             StringBuilder script = new StringBuilder("tide 1;tide 2;tide 3;tide 4;tide 5;tide 6;tide 7;tide 8");
             script.replace(7 * i, 7 * i + 6, "suit 8 0");
-            refusedScript("failing at " + i, i, script.toString(), Games.BUSY);
+            failing(script.toString(), i, Games.BUSY);
         }
-        refusedScript("many kinds before it", 5, "settle 1;site 0 6 1;suit 0 1;tide 9;bid 1 2 4;settle 0",
+        failing("settle 1;site 0 6 1;suit 0 1;tide 9;bid 1 2 4;settle 0", 5,
                 Games.THREE.then(game -> game.placeBid(0, 1, 20)));
-        refusedScript("a player before it", 1, "player 9;player 9", Games.THREE);
-        refusedScript("bids before it", 4, "bluff 0 2 5;drop 3 1;bid 3 2 6;settle 2;ferry 1 0", Games.BUSY);
-    }
-
-    /** A failing script leaves nothing but the index of the failed command. */
-    private void refusedScript(String what, int failed, String script, Start start) {
-        Start tried = start.then(game -> Games.runInVain(game, script));
-        answers(what + ": " + script, STATE, start, game -> Games.run(game, script));
-        answers(what + ", index", failed, tried, BridgeAuction::failedCommand);
-        for (Look look : Look.values()) {
-            due(what + " leaves " + look, withoutFailure(look.at(start.make())),
-                    () -> withoutFailure(look.at(tried.make())));
-        }
-    }
-
-    private static String withoutFailure(String sight) {
-        return sight.replaceAll("failedCommand=\\w+", "");
+        failing("player 9;player 9", 1, Games.THREE);
+        failing("bluff 0 2 5;drop 3 1;bid 3 2 6;settle 2;ferry 1 0", 4, Games.BUSY);
     }
 
     @Sentence(promise = 0, text = "The error position of a script that does not have this form is the index of the "
@@ -334,8 +319,8 @@ public final class TermsOfScriptsTest extends Suite {
         due("the first is out of reach", 1, game::tide);
     }
 
-    @Sentence(promise = 0, text = "Undo and the snapshot cover everything except the script buffer, the error position, "
-            + "the index of the failed command, the output text and the snapshot itself.")
+    @Sentence(promise = 0, text = "Undo and the snapshot cover everything except the script buffer, the error "
+            + "position, the index of the failed command, the output text and the snapshot itself.")
     void coveredByUndoAndSnapshot() {
         covered("addPlayer", Games.THREE, game -> game.addPlayer(9));
         covered("addPlayer with 0", Games.THREE, game -> game.addPlayer(0));

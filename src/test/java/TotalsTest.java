@@ -279,13 +279,15 @@ public final class TotalsTest extends Suite {
         due("the bank has 1 too little", false, game::isConsistent);
         add(game, "bank", 1);
         due("the bank is right", true, game::isConsistent);
-        int available = game.availableMoney(1);
-        move(game, available);
-        due("nothing is available", true, game::isConsistent);
-        move(game, 1);
-        due("available money is -1", false, game::isConsistent);
-        move(game, -1 - available);
-        due("as it was", true, game::isConsistent);
+        for (int player = 0; player < 4; player++) {
+            int available = game.availableMoney(player);
+            move(game, player, available);
+            due("nothing is available", true, game::isConsistent);
+            move(game, player, 1);
+            due("available money is -1", false, game::isConsistent);
+            move(game, player, -1 - available);
+            due("as it was", true, game::isConsistent);
+        }
         BridgeAuction apart = new BridgeAuction();
         apart.addPlayer(99);
         Games.bridge(apart, 0, 0, 1, 3);
@@ -299,9 +301,9 @@ public final class TotalsTest extends Suite {
         due("lengths are right", true, apart::isConsistent);
     }
 
-    /** Player 1 pays the bank, so that the sum of all money stays. */
-    private static void move(BridgeAuction game, int money) {
-        ((int[]) held(game, "moneys"))[1] -= money;
+    /** The player pays the bank, so that the sum of all money stays. */
+    private static void move(BridgeAuction game, int player, int money) {
+        ((int[]) held(game, "moneys"))[player] -= money;
         add(game, "bank", money);
     }
 

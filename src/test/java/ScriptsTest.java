@@ -106,6 +106,12 @@ public final class ScriptsTest extends Suite {
             answers("empty after '" + script + "'", ARGUMENT, run, BridgeAuction::runScript);
             answers("position after '" + script + "'", 0, again, BridgeAuction::errorPosition);
         }
+        Start longer = game -> Games.run(game, "player 12;player 34;tide 5");
+        answers("nothing is left of a longer script", 1, longer, game -> Games.run(game, "player 5"));
+        answers("nor a second digit", 5, longer.then(game -> Games.run(game, "player 5")), game -> game.money(2));
+        answers("nor a further command", 2, longer, game -> Games.run(game, "player 67;player 8"));
+        answers("nor its second digit", 8, longer.then(game -> Games.run(game, "player 67;player 8")),
+                game -> game.money(3));
     }
 
     @Sentence(promise = 50, text = "Returns the number of commands.")

@@ -365,6 +365,16 @@ public final class TermsOfPlayTest extends Suite {
         }
         Start ferry = bids.then(game -> game.playFerry(0, 0));
         refused("below the highest beside a ferry", UNSUPPORTED, ferry, game -> game.placeBid(0, 0, 20));
+        Start highest = Games.FULL.then(game -> {
+            game.placeBid(0, 0, 10);
+            game.playFerry(0, 0);
+        });
+        for (int low : new int[] {1, 9, 10}) {
+            refused("the ferry's own bid lowered to " + low, UNSUPPORTED, highest, game -> game.placeBid(0, 0, low));
+            refused("or a bluff of " + low, UNSUPPORTED, highest, game -> game.placeBluff(0, 0, low));
+            refused("another's bid of " + low, UNSUPPORTED, highest, game -> game.placeBid(1, 0, low));
+        }
+        answers("the ferry's own bid raised", 88, highest, game -> game.placeBid(0, 0, 11));
         Start withdrawn = bids.then(game -> game.withdrawBid(1, 0));
         answers("above the highest that is left", 88, withdrawn, game -> game.placeBid(2, 0, 11));
     }

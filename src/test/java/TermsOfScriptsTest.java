@@ -179,6 +179,7 @@ public final class TermsOfScriptsTest extends Suite {
         }
         firstSigns();
         signsOfNumbers();
+        shorterThanTheScriptBefore();
         malformed("x".repeat(60), 0);
         malformed("tide 1;tide 2;tide 3;tide 4;tide 5;tide 6;suit 0 1;player 7;", 60);
         malformed("tide 1;tide 2;tide 3;tide 4;tide 5;tide 6;suit 0 1;player 7~", 59);
@@ -235,8 +236,24 @@ public final class TermsOfScriptsTest extends Suite {
         }
     }
 
+    private void shorterThanTheScriptBefore() {
+        for (String command : COMMANDS) {
+            for (int end = 0; end < command.length(); end++) {
+                String beginning = command.substring(0, end);
+                malformed(game -> Games.runInVain(game, command + ";" + command + "~"), beginning, end);
+                malformed(game -> Games.runInVain(game, "tide 5;" + command + "~"), "tide 4;" + beginning, 7 + end);
+            }
+            malformed(game -> Games.runInVain(game, command + ";" + command + "~"), command + ";",
+                    command.length() + 1);
+        }
+    }
+
     private void malformed(String script, int position) {
-        BridgeAuction game = new BridgeAuction();
+        malformed(Games.EMPTY, script, position);
+    }
+
+    private void malformed(Start start, String script, int position) {
+        BridgeAuction game = start.make();
         Games.typeAll(game, script);
         due("form of '" + script + "'", ARGUMENT, game::runScript);
         due("position in '" + script + "'", position, game::errorPosition);

@@ -6,8 +6,27 @@ final class Checks {
         Object answer();
     }
 
+    private static final long MOST_MILLISECONDS = 300_000;
+
     private int right = 0;
     private int wrong = 0;
+
+    /** A call that does not end is a fault too. */
+    Checks() {
+        Thread watch = new Thread(Checks::stopLate);
+        watch.setDaemon(true);
+        watch.start();
+    }
+
+    private static void stopLate() {
+        try {
+            Thread.sleep(MOST_MILLISECONDS);
+        } catch (InterruptedException e) {
+            return;
+        }
+        System.out.println("the test did not end");
+        Runtime.getRuntime().halt(1);
+    }
 
     /** What the call answers; a class stands for an exception of exactly this class. */
     static Object answerOf(Call call) {

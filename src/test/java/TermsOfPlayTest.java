@@ -1,3 +1,5 @@
+import java.util.Arrays;
+
 /** The document's "Terms" from the islands to the score: each limit just below it, at it and just above it. */
 public final class TermsOfPlayTest extends Suite {
     private static final int[] NO_ISLANDS = {-1, 8, Integer.MIN_VALUE, Integer.MAX_VALUE};
@@ -68,7 +70,7 @@ public final class TermsOfPlayTest extends Suite {
         int[] moneys = {30, 10, 40, 20};
         for (int n = 0; n <= 4; n++) {
             int count = n;
-            Start some = game -> Games.addPlayers(game, java.util.Arrays.copyOf(moneys, count));
+            Start some = game -> Games.addPlayers(game, Arrays.copyOf(moneys, count));
             for (int i = 0; i < n; i++) {
                 int player = i;
                 answers("money of " + i + " of " + n, moneys[i], some, game -> game.money(player));

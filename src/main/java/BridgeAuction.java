@@ -28,7 +28,7 @@ public final class BridgeAuction {
     private final Game game = new Game();
     private final Game snapshot = new Game();
     private final Game trial = new Game();
-    private final Graph graph = new Graph(game);
+    private final Graph graph = new Graph();
     private final History history = new History();
     private final Script script = new Script();
     private final StringBuilder output = new StringBuilder();
@@ -204,37 +204,37 @@ public final class BridgeAuction {
     public boolean isConnected(int first, int second) throws IndexOutOfBoundsException {
         requireIsland(first);
         requireIsland(second);
-        return graph.reaches(first, second);
+        return Graph.reaches(game, first, second);
     }
 
     public int distance(int first, int second) throws IndexOutOfBoundsException, NoSuchElementException {
         requireIsland(first);
         requireIsland(second);
-        graph.searchNearest(first);
+        graph.searchNearest(game, first);
         return requireNear(graph.nearest[second]);
     }
 
     public int distanceByRelaxation(int first, int second) throws IndexOutOfBoundsException, NoSuchElementException {
         requireIsland(first);
         requireIsland(second);
-        graph.relaxFrom(first);
+        graph.relaxFrom(game, first);
         return requireNear(graph.relaxed[second]);
     }
 
     public int componentCount() {
-        return graph.countBySearch();
+        return Graph.countBySearch(game);
     }
 
     public int componentCountByUnion() {
-        return graph.countByJoining();
+        return graph.countByJoining(game);
     }
 
     public int forestLength() {
-        return graph.kruskalLength();
+        return graph.kruskalLength(game);
     }
 
     public int forestLengthByPrim() {
-        return graph.primLength();
+        return Graph.primLength(game);
     }
 
     // ---- totals, ranks, checks
@@ -273,9 +273,9 @@ public final class BridgeAuction {
     }
 
     public boolean isConsistent() {
-        return graph.distancesAgree()
-                && graph.countBySearch() == graph.countByJoining()
-                && graph.kruskalLength() == graph.primLength()
+        return graph.distancesAgree(game)
+                && Graph.countBySearch(game) == graph.countByJoining(game)
+                && graph.kruskalLength(game) == Graph.primLength(game)
                 && game.isEveryPlayerSolvent()
                 && game.isMoneyKept();
     }
@@ -932,21 +932,16 @@ public final class BridgeAuction {
         }
     }
 
-    /** The built sites as edges. Its rows are scratch space that every search fills anew. */
+    /** The built sites of a game as edges. Its rows are scratch space that every search fills anew. */
     private static final class Graph {
-        private final Game game;
         private final int[] nearest = new int[ISLANDS];
         private final int[] relaxed = new int[ISLANDS];
         private final int[] parents = new int[ISLANDS];
 
-        Graph(Game game) {
-            this.game = game;
-        }
-
         // ---- shortest paths
 
         /** Dijkstra: the island that is nearest of the open ones is final, since every length is positive. */
-        void searchNearest(int start) {
+        void searchNearest(Game game, int start) {
             Arrays.fill(nearest, FAR);
             nearest[start] = 0;
             int closed = 0;
@@ -956,7 +951,7 @@ public final class BridgeAuction {
                     return;
                 }
                 closed |= 1 << island;
-                lookFurther(island);
+                lookFurther(game, island);
             }
         }
 
@@ -972,7 +967,7 @@ public final class BridgeAuction {
             return found;
         }
 
-        private void lookFurther(int island) {
+        private void lookFurther(Game game, int island) {
             for (int site = 0; site < game.sites; site++) {
                 int next = game.bridgedFrom(island, site);
                 if (next != NONE) {
@@ -982,15 +977,15 @@ public final class BridgeAuction {
         }
 
         /** Bellman-Ford: a shortest path has at most one edge fewer than there are islands. */
-        void relaxFrom(int start) {
+        void relaxFrom(Game game, int start) {
             Arrays.fill(relaxed, FAR);
             relaxed[start] = 0;
             for (int round = 1; round < ISLANDS; round++) {
-                relaxAll();
+                relaxAll(game);
             }
         }
 
-        private void relaxAll() {
+        private void relaxAll(Game game) {
             for (int site = 0; site < game.sites; site++) {
                 if (game.hasBridge(site)) {
                     int lower = game.lowers[site];
@@ -1001,10 +996,10 @@ public final class BridgeAuction {
             }
         }
 
-        boolean distancesAgree() {
+        boolean distancesAgree(Game game) {
             for (int start = 0; start < ISLANDS; start++) {
-                searchNearest(start);
-                relaxFrom(start);
+                searchNearest(game, start);
+                relaxFrom(game, start);
                 for (int end = 0; end < ISLANDS; end++) {
                     if (nearest[end] != relaxed[end]) {
                         return false;
@@ -1016,11 +1011,11 @@ public final class BridgeAuction {
 
         // ---- components
 
-        boolean reaches(int first, int second) {
+        static boolean reaches(Game game, int first, int second) {
             return contains(visit(game, first, 0), second);
         }
 
-        int countBySearch() {
+        static int countBySearch(Game game) {
             int count = 0;
             int seen = 0;
             for (int island = 0; island < ISLANDS; island++) {
@@ -1044,11 +1039,11 @@ public final class BridgeAuction {
             return reached;
         }
 
-        int countByJoining() {
+        int countByJoining(Game game) {
             separateAll();
             int count = ISLANDS;
             for (int site = 0; site < game.sites; site++) {
-                if (game.hasBridge(site) && joinEnds(site)) {
+                if (game.hasBridge(site) && joinEnds(game, site)) {
                     count--;
                 }
             }
@@ -1061,7 +1056,7 @@ public final class BridgeAuction {
             }
         }
 
-        private boolean joinEnds(int site) {
+        private boolean joinEnds(Game game, int site) {
             int one = rootOf(game.lowers[site]);
             int other = rootOf(game.highers[site]);
             parents[one] = other;
@@ -1079,12 +1074,12 @@ public final class BridgeAuction {
         // ---- minimum spanning forests
 
         /** Kruskal: lengths are few, so going through them in order replaces sorting the edges. */
-        int kruskalLength() {
+        int kruskalLength(Game game) {
             separateAll();
             int total = 0;
             for (int length = 1; length <= LENGTH_LIMIT; length++) {
                 for (int site = 0; site < game.sites; site++) {
-                    if (game.hasBridge(site) && game.lengths[site] == length && joinEnds(site)) {
+                    if (game.hasBridge(site) && game.lengths[site] == length && joinEnds(game, site)) {
                         total += length;
                     }
                 }
@@ -1093,13 +1088,13 @@ public final class BridgeAuction {
         }
 
         /** Prim: a tree is full before the next one starts, so one set of islands serves for all trees. */
-        int primLength() {
+        static int primLength(Game game) {
             int total = 0;
             int reached = 0;
             for (int start = 0; start < ISLANDS; start++) {
                 reached |= 1 << start;
                 for (int round = 1; round < ISLANDS; round++) {
-                    int site = shortestLeaving(reached);
+                    int site = shortestLeaving(game, reached);
                     if (site == NONE) {
                         break;
                     }
@@ -1110,7 +1105,7 @@ public final class BridgeAuction {
             return total;
         }
 
-        private int shortestLeaving(int reached) {
+        private static int shortestLeaving(Game game, int reached) {
             int shortest = NONE;
             for (int site = 0; site < game.sites; site++) {
                 boolean leaves = game.hasBridge(site)

@@ -32,6 +32,7 @@ public final class FaceTest {
         test.forbidden(source);
         test.names(source);
         test.methodLengths(source);
+        test.constructors(source);
         test.checks.close();
     }
 
@@ -102,12 +103,16 @@ public final class FaceTest {
     }
 
     private void forbidden(String source) {
-        String code = source.replaceAll("(?s)/\\*.*?\\*/", "").replaceAll("//.*", "");
+        String code = withoutComments(source);
         for (String forbidden : FORBIDDEN) {
             Matcher matcher = Pattern.compile(forbidden).matcher(code);
             checks.due("source without " + forbidden, "", () -> matcher.find() ? matcher.group() : "");
         }
         checks.due("ASCII alone", true, () -> source.chars().allMatch(c -> c < 127));
+    }
+
+    private static String withoutComments(String source) {
+        return source.replaceAll("(?s)/\\*.*?\\*/", "").replaceAll("//.*", "");
     }
 
     private void names(String source) {
@@ -127,6 +132,17 @@ public final class FaceTest {
         }
         checks.due("no inner method bears a name of the face", "[]", shared::toString);
         checks.due("few classes", true, () -> source.split("(?m)^    private (static final class|enum) ").length <= 12);
+    }
+
+    /** What a constructor gets of the object that is being made, it could keep. */
+    private void constructors(String source) {
+        List<String> handedOut = new ArrayList<>();
+        String code = withoutComments(source).replaceAll("\"[^\"]*\"", "text");
+        Matcher made = Pattern.compile("(?<!throw )new \\w+\\([^)]+\\)|\\bthis\\b(?!\\.)").matcher(code);
+        while (made.find()) {
+            handedOut.add(made.group());
+        }
+        checks.due("handed to a constructor, or handed out by an object", "[]", handedOut::toString);
     }
 
     private void methodLengths(String source) {
